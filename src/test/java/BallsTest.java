@@ -56,6 +56,7 @@ public final class BallsTest {
         dueLog("a fall at 30, which is the most", " 0:0:1:0", 10, 0, 30, bumper(10, 30, 101, 0));
         dueLog("a fall at 29", " 0:0:1:0", 10, 0, 29, bumper(10, 30, 101, 0));
         dueLog("a fall at 28, to 30 in step 1", " 0:0:2:0", 10, 0, 28, bumper(10, 60, 101, 0));
+        Check.due("a rise to -1, which is 1", bumpsAtOnce(10, 0, -3, bumper(10, 1, 101, 0)), true);
         dueLog("a rise at -30, which turns at 0", " 0:0:1:0", 10, 0, -30, bumper(10, 28, 101, 0));
     }
 
@@ -75,6 +76,8 @@ public final class BallsTest {
         dueLog("behind the right wall, to the left", " 0:0:2:0", 150, 20, 0, bumper(128, 2, 101, 20));
         dueLog("the left wall", " 0:0:1:0", 5, -20, 0, bumper(15, 0, 101, 0));
         dueLog("behind the left wall, to the right", " 0:0:2:0", 5, -20, 0, bumper(35, 2, 101, 20));
+        dueLog("to -1, which is 1", " 0:0:1:0", 19, -20, 0, bumper(1, 0, 101, 0));
+        dueLog("to 160, which is 158", " 0:0:1:0", 150, 10, 0, bumper(158, 0, 101, 0));
         dueLog("159 is no wall yet", " 0:0:1:0 1:0:2:0", 139, 20, 0, bumper(159, 0, 101, 0), bumper(119, 2, 101, 20));
         dueLog("0 is no wall yet", " 0:0:1:0 1:0:2:0", 20, -20, 0, bumper(0, 0, 101, 0), bumper(40, 2, 101, 20));
         dueLog("a bump behind the wall, with kick 5", " 0:0:1:0 1:0:2:0", 150, 20, 0,
@@ -172,6 +175,21 @@ public final class BallsTest {
         Check.due("the entry of a sticking", x.entryAt(0, 60), 0L + (1 << 4) + (10 << 8) + (2 << 20));
     }
 
+    /** The longest log: two hits in each step, and seven closings each 10 steps. */
+    private static void longestLog() {
+        TiltRoute x = begun(bumper(0, 0, 6060, 0), bumper(100, 0, 101, 0), bumper(100, 0, 101, 0),
+                bumper(100, 0, 101, 0), bumper(100, 0, 101, 0), bumper(100, 0, 101, 0), bumper(100, 0, 101, 0),
+                bumper(100, 0, 101, 0));
+        for (int i = 1; i < 8; i++) {
+            x.stick(0, i);
+        }
+        for (int ball = 1; ball <= 3; ball++) {
+            x.shoot(0, 30, 0, 0);
+            Check.due("entries of " + ball + " balls", x.logged(0), ball * 810);
+        }
+        Check.due("the last entry", x.entryAt(0, 2429), 7L + (2 << 4) + (300 << 8) + (7 << 20));
+    }
+
     private static void hitsAheadOfStickingClosings() {
         TiltRoute x = begun(bumper(100, 0, 101, 0), bumper(0, 0, 6060, 0));
         x.stick(0, 0);
@@ -250,6 +268,7 @@ public final class BallsTest {
         step300();
         stickingSwitches();
         hitsAheadOfStickingClosings();
+        longestLog();
         brokenAtForty();
         brokenWithX();
         growth();

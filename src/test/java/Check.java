@@ -19,8 +19,13 @@ final class Check {
         asked++;
         if (!want.equals(got)) {
             wrong++;
-            System.out.println(told + " answered " + got + ", due is " + want);
+            System.out.println(told + " answered " + cut(got) + ", due is " + cut(want));
         }
+    }
+
+    private static String cut(Object answer) {
+        String told = String.valueOf(answer);
+        return told.length() <= 400 ? told : told.substring(0, 400) + " ..";
     }
 
     /** Demands that the call throws exactly this, from a throw of the class itself, and changes nothing. */

@@ -146,6 +146,15 @@ public final class LogsTest {
         Check.due("the twin of the beginning then", x.twin(6), 7);
     }
 
+    private static void twinsOfTheFirstGame() {
+        TiltRoute x = new TiltRoute();
+        Routes.addButtons(x, 0, 1, 1);
+        Routes.playPresses(x, 0, 0, 0, 0);
+        Routes.playPresses(x, 0, 0, 0, 0);
+        Check.due("the twin of the first game", x.twin(0), 1);
+        Check.due("the twin of the second game", x.twin(1), 0);
+    }
+
     private static void twinsByAllPartsOfAnEntry() {
         TiltRoute x = new TiltRoute();
         Routes.addButtons(x, 0, 1, 2);
@@ -261,6 +270,7 @@ public final class LogsTest {
         promises17And18();
         validWithAModeThatEnds();
         promise21Twin();
+        twinsOfTheFirstGame();
         twinsByAllPartsOfAnEntry();
         promise22High();
         highOfStruckScores();

@@ -154,6 +154,27 @@ public final class TablesTest {
         Check.due("the mode 0 behind all these", x.setMode(0, 0, -1, 102, 0), false);
     }
 
+    private static void promise5SetModeSwitches() {
+        TiltRoute empty = new TiltRoute();
+        empty.addTable(0, 1);
+        Check.raises("switches 0 without bumpers", Check.INDEX, empty, () -> empty.setMode(0, 0, 0, 102, 0));
+        Check.due("NONE without bumpers", empty.setMode(0, 0, -1, 102, 0), false);
+        for (int begins = 0; begins < 8; begins++) {
+            TiltRoute x = new TiltRoute();
+            Routes.addButtons(x, 0, 1, 8);
+            for (int ends = 0; ends < 8; ends++) {
+                Check.due("it was defined", x.setMode(0, 0, 10 * begins + ends, 2002, 0), ends > 0);
+                int game = x.coin(0);
+                Routes.press(x, 0, begins);
+                Check.due("the stack behind the beginning by " + begins, x.stack(game), 1);
+                Routes.press(x, 0, ends);
+                Check.due("the stack behind the end by " + ends, x.stack(game), 0);
+                Routes.press(x, 0, (begins + 1) % 8);
+                Check.due("the stack behind another switch", x.stack(game), 0);
+            }
+        }
+    }
+
     private static void promise5SetModeThatThrowsKeepsTheMode() {
         TiltRoute x = new TiltRoute();
         Routes.addButtons(x, 0, 1, 2);
@@ -254,6 +275,7 @@ public final class TablesTest {
         promise3AddBumper();
         promise4SetPoints();
         promise5SetModeArguments();
+        promise5SetModeSwitches();
         promise5SetModeThatThrowsKeepsTheMode();
         promise6Tables();
         promise7And8Stick();

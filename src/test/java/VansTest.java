@@ -189,6 +189,30 @@ public final class VansTest {
         duePlan("five tables", stickingFrom(50, 90, 20, 50, 60, 40), 1, 100, " 1 4 2 3 0");
     }
 
+    /** With six sites on one side of the van, there is one shortest way, whatever the numbers of the tables are. */
+    private static void eachOrderOfSixTables() {
+        int orders = 0;
+        for (int code = 0; code < 6 * 6 * 6 * 6 * 6 * 6; code++) {
+            int[] sites = new int[6];
+            int[] tableAt = new int[6];
+            int seen = 0;
+            for (int table = 0, rest = code; table < 6; table++, rest /= 6) {
+                sites[table] = 10 * (rest % 6) + 10;
+                tableAt[rest % 6] = table;
+                seen |= 1 << rest % 6;
+            }
+            if (seen == 63) {
+                StringBuilder plan = new StringBuilder();
+                for (int table : tableAt) {
+                    plan.append(' ').append(table);
+                }
+                duePlan("an order of six tables", sticking(sites), 0, 60, plan.toString());
+                orders++;
+            }
+        }
+        Check.due("orders of six tables", orders, 720);
+    }
+
     private static void needsService() {
         TiltRoute x = new TiltRoute();
         for (int i = 0; i < 4; i++) {
@@ -340,6 +364,7 @@ public final class VansTest {
         promise28Wanted();
         promises29And30Arguments();
         shortestWays();
+        eachOrderOfSixTables();
         needsService();
         brokenNeedsService();
         promise31Go();
