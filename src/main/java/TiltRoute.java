@@ -86,7 +86,7 @@ public final class TiltRoute {
             demandBumper(place, switches / 10);
             demandBumper(place, switches % 10);
         }
-        demandRange(switches, NONE, Integer.MAX_VALUE);
+        demandLeast(switches, NONE);
         demandRange(limit / 100, 1, 20);
         demandRange(limit % 100, 2, 9);
         demandRange(bonus, 0, 5000);
@@ -210,7 +210,7 @@ public final class TiltRoute {
 
     public int high(int table, int place) throws IndexOutOfBoundsException, IllegalArgumentException {
         demandTable(table);
-        demandRange(place, 0, Integer.MAX_VALUE);
+        demandLeast(place, 0);
         for (int i = 0; i < games.size() && i < validScores.length; i++) {
             validScores[i] = ranksAt(i, table) ? replayedScore(games.get(i), true) : NONE;
         }
@@ -341,6 +341,12 @@ public final class TiltRoute {
     private static void demandRange(int value, int least, int most) throws IllegalArgumentException {
         if (value < least || value > most) {
             throw new IllegalArgumentException("an argument is out of its range");
+        }
+    }
+
+    private static void demandLeast(int value, int least) throws IllegalArgumentException {
+        if (value < least) {
+            throw new IllegalArgumentException("an argument is too low");
         }
     }
 

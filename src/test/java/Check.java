@@ -5,12 +5,18 @@ final class Check {
         Object answer();
     }
 
+    /** A call on a route with a number. */
+    interface CallOf {
+        Object answer(int number);
+    }
+
     static final Class<IllegalArgumentException> ARGUMENT = IllegalArgumentException.class;
     static final Class<IllegalStateException> STATE = IllegalStateException.class;
     static final Class<IndexOutOfBoundsException> INDEX = IndexOutOfBoundsException.class;
 
     private static int asked = 0;
     private static int wrong = 0;
+    private static String about = "";
 
     private Check() {
     }
@@ -19,8 +25,17 @@ final class Check {
         asked++;
         if (!want.equals(got)) {
             wrong++;
-            System.out.println(told + " answered " + cut(got) + ", due is " + cut(want));
+            System.out.println(about + told + " answered " + cut(got) + ", due is " + cut(want));
         }
+    }
+
+    /** Tells what the answers from now on are about; it is printed ahead of each one that is not as due. */
+    static void setAbout(String words) {
+        about = words;
+    }
+
+    static int countAsked() {
+        return asked;
     }
 
     private static String cut(Object answer) {
@@ -39,6 +54,28 @@ final class Check {
         }
         due(told, got, want.getSimpleName());
         due(told + " changes nothing", stateOf(route), before);
+    }
+
+    /** Demands the same of the call with each of these numbers. */
+    static void raisesFor(String told, Class<? extends RuntimeException> want, TiltRoute route, int[] numbers,
+            CallOf call) {
+        for (int number : numbers) {
+            raises(told + " " + number, want, route, () -> call.answer(number));
+        }
+    }
+
+    /**
+     * Numbers outside a range: those next to it, the lowest and the highest of all, and some that would be in it if
+     * they were cut to 8, 16 or 31 bits.
+     */
+    static int[] outside(int least, int most) {
+        int[] outside = {least - 1, most + 1, Integer.MIN_VALUE, Integer.MAX_VALUE, Integer.MIN_VALUE + least,
+            Integer.MIN_VALUE + most, least + 65536, most + 65536, least - 65536, most - 65536, least + 8192,
+            most - 8192};
+        for (int number : outside) {
+            due(number + " is outside of " + least + " to " + most, number < least || number > most, true);
+        }
+        return outside;
     }
 
     /** The exception's name, with a sign behind it if the machine or the library has thrown it. */

@@ -1,9 +1,16 @@
+import java.io.IOException;
 import java.lang.reflect.Constructor;
 import java.lang.reflect.Field;
 import java.lang.reflect.Method;
 import java.lang.reflect.Modifier;
+import java.nio.file.Files;
+import java.nio.file.Path;
+import java.util.ArrayList;
+import java.util.List;
 import java.util.Map;
 import java.util.TreeMap;
+import java.util.regex.Matcher;
+import java.util.regex.Pattern;
 
 /** The face of the class: its constants, its constructor and its methods, and nothing else that is not private. */
 public final class FaceTest {
@@ -82,6 +89,60 @@ public final class FaceTest {
         Check.due("the constants", found, new TreeMap<>(Map.of("NONE", -1, "SWITCHES", 0, "COILS", 1)));
     }
 
+    private static void meanings() {
+        Document.saysOfAll("The constants: `NONE = -1`: There is none.");
+        Check.due("NONE", TiltRoute.NONE, -1);
+        TiltRoute x = Routes.withButtons(1);
+        Check.due("no game", x.gameAt(0), -1);
+        Check.due("no game at a place", x.high(0, 0), -1);
+        x.coin(0);
+        Check.due("no twin", x.twin(0), -1);
+        Check.due("no mode", Routes.withButtons(1).setMode(0, 0, -1, 102, 0), false);
+
+        Document.saysOfAll("`SWITCHES = 0, COILS = 1`: Kinds of spare parts.");
+        Check.due("SWITCHES", TiltRoute.SWITCHES, 0);
+        Check.due("COILS", TiltRoute.COILS, 1);
+        TiltRoute z = Routes.withButtons(1);
+        z.stick(0, 0);
+        Check.due("a switch that sticks wants the kind 0", z.wanted(0), 1);
+        Check.due("it does not want the kind 1", z.wanted(1), 0);
+        z.load(0, 1, 1);
+        z.go(0);
+        Check.due("a part of the kind 1 does not mend it", z.sticks(0, 0), true);
+        z.load(0, 0, 1);
+        z.go(0);
+        Check.due("a part of the kind 0 mends it", z.sticks(0, 0), false);
+    }
+
+    /** The parts of the face, in their order, each behind the words that the interface says ahead of them. */
+    private static void order() throws IOException {
+        String text = Files.readString(Path.of("src/main/java/TiltRoute.java"));
+        Document.saysOfAll("Ahead of the calls `addTable`, `addBumper`, `setPoints`, `setMode`, `tables`, `stick`, "
+                + "`sticks`, `wear` the interface says: ---- tables.");
+        dueOrder(text, "---- tables", "addTable", "addBumper", "setPoints", "setMode", "tables", "stick", "sticks", "wear");
+        Document.saysOfAll("Ahead of the calls `coin`, `shoot`, `gameAt`, `games`, `ballsLeft`, `stack`, `score`, "
+                + "`scoreByLog`, `valid`, `logged`, `entryAt`, `twin`, `high` the interface says: ---- games.");
+        dueOrder(text, "---- games", "coin", "shoot", "gameAt", "games", "ballsLeft", "stack", "score", "scoreByLog",
+                "valid", "logged", "entryAt", "twin", "high");
+        Document.saysOfAll("Ahead of the calls `rob`, `box`, `missing`, `load`, `parts`, `wanted`, `way`, `planned`, "
+                + "`go`, `vanAt` the interface says: ---- boxes and vans.");
+        dueOrder(text, "---- boxes and vans", "rob", "box", "missing", "load", "parts", "wanted", "way", "planned", "go",
+                "vanAt");
+    }
+
+    private static void dueOrder(String text, String words, String... names) {
+        Matcher heads = Pattern.compile("(?m)^ {4}// (---- [a-z ]+)$|^ {4}public \\w+ (\\w+)\\(").matcher(text);
+        List<String> found = new ArrayList<>();
+        String said = "";
+        while (heads.find()) {
+            said = heads.group(1) != null ? heads.group(1) : said;
+            if (heads.group(2) != null && said.equals(words)) {
+                found.add(heads.group(2));
+            }
+        }
+        Check.due("the calls behind " + words, found, List.of(names));
+    }
+
     private static void theClass() {
         Class<?> asked = TiltRoute.class;
         Check.due("the class is", Modifier.toString(asked.getModifiers()), "public final");
@@ -96,10 +157,13 @@ public final class FaceTest {
         }
     }
 
-    public static void main(String[] args) throws IllegalAccessException {
+    public static void main(String[] args) throws IllegalAccessException, IOException {
         theClass();
         constants();
         Check.due("the methods", methodsOf(TiltRoute.class), dueMethods());
+        meanings();
+        order();
+        Document.demandTerm("Vans", 4, 8);
         Check.end();
     }
 }

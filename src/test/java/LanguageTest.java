@@ -16,7 +16,7 @@ public final class LanguageTest {
     private static final String[] KEPT_OUT = {"\\bcatch\\b", "\\btry\\b", "\\bfinally\\b", "\\bassert\\b",
         "\\bsynchronized\\b", "->", "::", "Exact\\b", "\\binstanceof\\b", "\\bobject\\.equals\\b", "\\bhashCode\\b",
         "\\btoString\\b", "\\bSystem\\b", "\\bThread\\b", "\\bRandom\\b", "\\bvar\\b", "\\bdouble\\b", "\\bfloat\\b",
-        "\\bpackage\\b", "@", "\"\\s*\\+", "\\+\\s*\""};
+        "\\bpackage\\b", "@", "\\b(Integer|Long)\\.[A-Z]", "\"\\s*\\+", "\\+\\s*\""};
     private static final Set<String> EXCEPTIONS = Set.of("IllegalStateException", "IllegalArgumentException",
             "IndexOutOfBoundsException");
 

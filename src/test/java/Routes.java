@@ -3,6 +3,34 @@ final class Routes {
     private Routes() {
     }
 
+    static int[] bumper(int left, int top, int size, int kick) {
+        return new int[] {left, top, size, kick};
+    }
+
+    /** A route with a table for 1 coin at the site 0, with the bumpers {left, top, size, kick}, in no game. */
+    static TiltRoute withBumpers(int[]... bumpers) {
+        TiltRoute x = new TiltRoute();
+        x.addTable(0, 1);
+        for (int[] b : bumpers) {
+            x.addBumper(0, b[0], b[1], b[2], b[3]);
+        }
+        return x;
+    }
+
+    /** The same, with a game begun. */
+    static TiltRoute begun(int[]... bumpers) {
+        TiltRoute x = withBumpers(bumpers);
+        x.coin(0);
+        return x;
+    }
+
+    /** A route with a table for 1 coin at the site 0, with so many buttons. */
+    static TiltRoute withButtons(int buttons) {
+        TiltRoute x = new TiltRoute();
+        addButtons(x, 0, 1, buttons);
+        return x;
+    }
+
     /**
      * Adds a table with buttons: bumpers of one part at y 0, each of which press() hits once, with x, in step 1.
      * Behind it the ball is away from all of them, as its y is never 0 again.
@@ -33,6 +61,18 @@ final class Routes {
     /** Lets a ball fall that hits no button; those that stick close in step 10, the last one. */
     static int wait(TiltRoute x, int table) {
         return x.shoot(table, 0, 0, 14);
+    }
+
+    /** Shoots a ball into the field; it stays in a box of 60 times 60 parts at 0 0 for 300 steps, with two hits in each. */
+    static int stay(TiltRoute x, int table) {
+        return x.shoot(table, 30, 0, 0);
+    }
+
+    /** Misses until the game at the table is over. */
+    static void finish(TiltRoute x, int table) {
+        while (x.gameAt(table) != TiltRoute.NONE) {
+            miss(x, table);
+        }
     }
 
     /** Plays a whole game that closes nothing. */
