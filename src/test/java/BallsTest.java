@@ -104,8 +104,10 @@ public final class BallsTest {
 
     private static void mostSpeed() {
         Document.says(11, "A ball has a place, x and y, and a speed in both directions, at most 30 without sign.");
-        dueLog("30 to the left, kicked", " 0:0:1:0 1:0:2:0", 75, -30, 0, bumper(0, 0, 6001, 20), bumper(105, 2, 101, 0));
-        dueLog("30 to the right, kicked", " 0:0:1:0 1:0:2:0", 60, 30, 0, bumper(80, 0, 6001, 20), bumper(30, 2, 101, 0));
+        dueLog("30 to the left, kicked", " 0:0:1:0 1:0:2:0", 75, -30, 0,
+                bumper(0, 0, 6001, 20), bumper(105, 2, 101, 0));
+        dueLog("30 to the right, kicked", " 0:0:1:0 1:0:2:0", 60, 30, 0,
+                bumper(80, 0, 6001, 20), bumper(30, 2, 101, 0));
         dueLog("30 downwards, kicked", " 0:0:1:0 1:0:2:0", 30, 0, 30, bumper(30, 30, 101, 20), bumper(30, 28, 101, 0));
         dueLog("30 downwards in step 1", " 0:0:1:0", 10, 0, 30, bumper(10, 30, 101, 0));
         dueLog("30 downwards in step 7", " 0:0:7:0", 10, 0, 30, bumper(10, 210, 101, 0));
@@ -144,8 +146,8 @@ public final class BallsTest {
     }
 
     private static void walls() {
-        Document.says(11, "If it is below 0, it changes its sign, and if it is above 159, it becomes 318 less it; in both "
-                + "cases the speed to the right changes its sign.");
+        Document.says(11, "If it is below 0, it changes its sign, and if it is above 159, it becomes 318 less it; in "
+                + "both cases the speed to the right changes its sign.");
         for (int x = 0; x < 160; x++) {
             for (int right = -30; right <= 30; right += 6) {
                 int at = x + right;
@@ -166,11 +168,12 @@ public final class BallsTest {
     }
 
     private static void bumpsWithX() {
-        Document.says(11, "Then, if the ball is in the box of a bumper, it bumps: x is what it was ahead of this step, and "
-                + "the speed to the right changes its sign;");
+        Document.says(11, "Then, if the ball is in the box of a bumper, it bumps: x is what it was ahead of this "
+                + "step, and the speed to the right changes its sign;");
         dueLog("back to 70, and then to 85", " 0:0:1:0 1:0:2:0", 70, -15, 0, bumper(0, 0, 6001, 0),
                 bumper(85, 2, 101, 0));
-        dueLog("back to 70, and then to 65", " 0:0:1:0 1:0:2:0", 70, 5, 0, bumper(75, 0, 101, 0), bumper(65, 2, 101, 0));
+        dueLog("back to 70, and then to 65", " 0:0:1:0 1:0:2:0", 70, 5, 0,
+                bumper(75, 0, 101, 0), bumper(65, 2, 101, 0));
         dueLog("back to 150 behind the wall, and then to 170, which is 148", " 0:0:1:0 1:0:2:0", 150, 20, 0,
                 bumper(148, 0, 101, 0), bumper(148, 2, 101, 0));
         dueLog("the place ahead of this step, not that of the shot", " 0:0:2:0 1:0:3:0", 70, -15, 0,
@@ -184,7 +187,8 @@ public final class BallsTest {
         dueLog("-15 with a kick of 20", " 0:0:1:0 1:0:2:0", 70, -15, 0, bumper(0, 0, 6001, 20), bumper(100, 2, 101, 0));
         dueLog("-15 with a kick of 14", " 0:0:1:0 1:0:2:0", 70, -15, 0, bumper(0, 0, 6001, 14), bumper(99, 2, 101, 0));
         dueLog("15 with a kick of 20", " 0:0:1:0 1:0:2:0", 60, 15, 0, bumper(75, 0, 101, 20), bumper(30, 2, 101, 0));
-        dueLog("a kick behind the wall", " 0:0:1:0 1:0:2:0", 150, 20, 0, bumper(148, 0, 101, 5), bumper(143, 2, 101, 0));
+        dueLog("a kick behind the wall", " 0:0:1:0 1:0:2:0", 150, 20, 0,
+                bumper(148, 0, 101, 5), bumper(143, 2, 101, 0));
     }
 
     private static void noKicks() {
@@ -277,8 +281,8 @@ public final class BallsTest {
     }
 
     private static void bumpsWithY() {
-        Document.says(11, "Otherwise, if it is below 0, it changes its sign, and so does the speed; then, if the ball is in "
-                + "the box of a bumper, it bumps with y and the speed downwards likewise.");
+        Document.says(11, "Otherwise, if it is below 0, it changes its sign, and so does the speed; then, if the "
+                + "ball is in the box of a bumper, it bumps with y and the speed downwards likewise.");
         dueLog("-1, which is 1, and then 4", " 0:0:2:0", 10, 1, -3, bumper(12, 4, 101, 0));
         Check.due("-28, which is 28", logOfBall(10, 0, -30, bumper(10, 28, 101, 0)).startsWith(" 0:0:1:0"), true);
         dueLog("-28, which is 28, and then 58", " 0:0:2:0", 10, 1, -30, bumper(12, 58, 101, 0));
@@ -303,8 +307,8 @@ public final class BallsTest {
     }
 
     private static void hits() {
-        Document.says(11, "For each bump of this step, that with x first, the bumper is hit (twice, if it was the same one): "
-                + "its wear grows by 1, and if its switch does not stick, the switch is closed.");
+        Document.says(11, "For each bump of this step, that with x first, the bumper is hit (twice, if it was the "
+                + "same one): its wear grows by 1, and if its switch does not stick, the switch is closed.");
         dueLog("that with x first", " 1:0:1:0 0:0:1:0", 10, 5, 0, bumper(10, 2, 101, 20), bumper(15, 0, 101, 0));
         dueLog("that with x first, of the lower number", " 0:0:1:0 1:0:1:0", 10, 5, 0,
                 bumper(15, 0, 101, 0), bumper(10, 2, 101, 20));
@@ -326,8 +330,8 @@ public final class BallsTest {
     }
 
     private static void stickingSwitches() {
-        Document.says(11, "If the number of the step can be divided by 10, each switch that sticks is closed, by rising "
-                + "numbers.");
+        Document.says(11, "If the number of the step can be divided by 10, each switch that sticks is closed, by "
+                + "rising numbers.");
         TiltRoute x = Routes.begun(bumper(0, 0, 6060, 0), bumper(100, 0, 101, 0), bumper(120, 0, 101, 0));
         x.stick(0, 2);
         x.stick(0, 0);

@@ -6,8 +6,8 @@ import java.util.Map;
 import java.util.TreeMap;
 
 /**
- * The sentences of ../shared/DOC.md. A test quotes each one ahead of the answers that it demands for it, and says at its
- * end which sections it has to have quoted whole: so a sentence without a test shows.
+ * The sentences of ../shared/DOC.md. A test quotes each one ahead of the answers that it demands for it, and says at
+ * its end which sections it has to have quoted whole: so a sentence without a test shows.
  */
 final class Document {
     private static final Path PLACE = Path.of("../shared/DOC.md");

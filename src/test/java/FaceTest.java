@@ -119,15 +119,16 @@ public final class FaceTest {
         String text = Files.readString(Path.of("src/main/java/TiltRoute.java"));
         Document.saysOfAll("Ahead of the calls `addTable`, `addBumper`, `setPoints`, `setMode`, `tables`, `stick`, "
                 + "`sticks`, `wear` the interface says: ---- tables.");
-        dueOrder(text, "---- tables", "addTable", "addBumper", "setPoints", "setMode", "tables", "stick", "sticks", "wear");
+        dueOrder(text, "---- tables", "addTable", "addBumper", "setPoints", "setMode", "tables", "stick", "sticks",
+                "wear");
         Document.saysOfAll("Ahead of the calls `coin`, `shoot`, `gameAt`, `games`, `ballsLeft`, `stack`, `score`, "
                 + "`scoreByLog`, `valid`, `logged`, `entryAt`, `twin`, `high` the interface says: ---- games.");
         dueOrder(text, "---- games", "coin", "shoot", "gameAt", "games", "ballsLeft", "stack", "score", "scoreByLog",
                 "valid", "logged", "entryAt", "twin", "high");
         Document.saysOfAll("Ahead of the calls `rob`, `box`, `missing`, `load`, `parts`, `wanted`, `way`, `planned`, "
                 + "`go`, `vanAt` the interface says: ---- boxes and vans.");
-        dueOrder(text, "---- boxes and vans", "rob", "box", "missing", "load", "parts", "wanted", "way", "planned", "go",
-                "vanAt");
+        dueOrder(text, "---- boxes and vans", "rob", "box", "missing", "load", "parts", "wanted", "way", "planned",
+                "go", "vanAt");
     }
 
     private static void dueOrder(String text, String words, String... names) {

@@ -71,8 +71,8 @@ public final class GamesTest {
         }
         Check.raisesFor("the score of", Check.INDEX, x, Check.outside(0, 39), x::score);
 
-        Document.says(10, "A game is begun at a table with as many coins as its price, which come into the box, and has 3 "
-                + "balls; then it is over.");
+        Document.says(10, "A game is begun at a table with as many coins as its price, which come into the box, and "
+                + "has 3 balls; then it is over.");
         TiltRoute z = new TiltRoute();
         for (int table = 0; table < 6; table++) {
             int price = table < 3 ? table + 1 : table + 4;
@@ -95,8 +95,8 @@ public final class GamesTest {
     }
 
     private static void keptAsBegun() {
-        Document.says(10, "It keeps the points and modes of the table as they were when it was begun, has a score, 0 at "
-                + "first, and a stack of modes, empty at first, which goes on from ball to ball.");
+        Document.says(10, "It keeps the points and modes of the table as they were when it was begun, has a score, 0 "
+                + "at first, and a stack of modes, empty at first, which goes on from ball to ball.");
         TiltRoute x = withPoints(1, 10, 100, 1000);
         x.setMode(0, 0, 1, 302, 500);
         x.stick(0, 2);
@@ -126,8 +126,8 @@ public final class GamesTest {
     }
 
     private static void closedSwitches() {
-        Document.says(16, "When a switch is closed: the score grows by its points, taken as many times as the mode on top "
-                + "of the stack tells (once, if it is empty).");
+        Document.says(16, "When a switch is closed: the score grows by its points, taken as many times as the mode "
+                + "on top of the stack tells (once, if it is empty).");
         for (int times = 2; times <= 9; times++) {
             TiltRoute x = withPoints(1, 1000);
             x.setMode(0, 2, 7, 2000 + times, 0);
@@ -150,9 +150,9 @@ public final class GamesTest {
     }
 
     private static void topOfTheStack() {
-        Document.says(16, "If there is a mode on top, its hits (0 when it was put there) grow by 1; if the switch is that by "
-                + "which it ends, or its hits are its limit, it is taken off the stack, and the score grows by its bonus, "
-                + "and that is all.");
+        Document.says(16, "If there is a mode on top, its hits (0 when it was put there) grow by 1; if the switch is "
+                + "that by which it ends, or its hits are its limit, it is taken off the stack, and the score grows "
+                + "by its bonus, and that is all.");
         TiltRoute x = withPoints(1, 10);
         int[] due = {0, 1 + 530 + 10, 1 + 30 + 530, 1 + 30 + 30};
         for (int limit = 1; limit <= 3; limit++) {
@@ -222,8 +222,8 @@ public final class GamesTest {
     }
 
     private static void modesPutOnTop() {
-        Document.says(16, "Otherwise, if the stack has fewer than 3 modes, the lowest mode that is defined, is not in the "
-                + "stack, and begins by this switch, is put on top, if there is one.");
+        Document.says(16, "Otherwise, if the stack has fewer than 3 modes, the lowest mode that is defined, is not "
+                + "in the stack, and begins by this switch, is put on top, if there is one.");
         threeModes();
         lowestMode();
         TiltRoute x = withPoints(1);
@@ -382,8 +382,8 @@ public final class GamesTest {
         Routes.finish(z, 1);
         Check.due("of a game that is over", z.stack(0), 3);
 
-        Document.says(15, "Returns for each mode, from the lowest one on, the number before (0 at first) taken 10 times, and "
-                + "the mode and 1 added; 0 if it is empty.");
+        Document.says(15, "Returns for each mode, from the lowest one on, the number before (0 at first) taken 10 "
+                + "times, and the mode and 1 added; 0 if it is empty.");
         Check.due("an empty stack", x.stack(0), 0);
         for (int first = 0; first < 4; first++) {
             for (int second = 0; second < 4; second++) {

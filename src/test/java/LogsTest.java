@@ -18,10 +18,10 @@ public final class LogsTest {
     }
 
     private static void entries() {
-        Document.says(20, "The log of a game has an entry for each switch that was closed, in the order in which they were; "
-                + "it is a long: the switch in the lowest 4 bits, the ball (0 to 2) in the next 4, the step in the next 12, "
-                + "and in the next 12 the number of the sticking, and 1, if the switch was closed as it sticks, otherwise "
-                + "0.");
+        Document.says(20, "The log of a game has an entry for each switch that was closed, in the order in which "
+                + "they were; it is a long: the switch in the lowest 4 bits, the ball (0 to 2) in the next 4, the "
+                + "step in the next 12, and in the next 12 the number of the sticking, and 1, if the switch was "
+                + "closed as it sticks, otherwise 0.");
         TiltRoute x = new TiltRoute();
         Routes.addButtons(x, 0, 1, 8);
         Routes.addButtons(x, 0, 1, 8);
@@ -66,8 +66,8 @@ public final class LogsTest {
     }
 
     private static void stickings() {
-        Document.says(7, "Stickings are numbered from 0, at most 60, in the order in which they begin; each is of a table "
-                + "and a switch, until it is mended.");
+        Document.says(7, "Stickings are numbered from 0, at most 60, in the order in which they begin; each is of a "
+                + "table and a switch, until it is mended.");
         TiltRoute x = withPowers(2);
         Routes.addButtons(x, 0, 1, 2);
         x.setPoints(1, 0, 1);
@@ -95,8 +95,8 @@ public final class LogsTest {
     }
 
     private static void validScores() {
-        Document.says(18, "The valid score of a game is what its score would be if all entries of stickings that are mended "
-                + "by now were not in its log.");
+        Document.says(18, "The valid score of a game is what its score would be if all entries of stickings that are "
+                + "mended by now were not in its log.");
         TiltRoute x = withPowers(8);
         x.setMode(0, 0, 7, 2009, 0);
         x.stick(0, 0);
@@ -327,7 +327,8 @@ public final class LogsTest {
         Check.due("the other one is over", x.twin(4), 5);
         twinsByAllPartsOfAnEntry();
 
-        Document.says(21, "Returns that game; NONE if there is none, the log is empty, or the game itself is not over.");
+        Document.says(21, "Returns that game; NONE if there is none, the log is empty, or the game itself is not "
+                + "over.");
         TiltRoute z = Routes.withButtons(2);
         Routes.playEmpty(z, 0);
         Routes.playEmpty(z, 0);
@@ -421,8 +422,8 @@ public final class LogsTest {
     }
 
     private static void promise22High() {
-        Document.says(22, "Returns the game that stands at a place in the high scores of a table: those that are over, by "
-                + "falling valid scores, those with the same by rising numbers.");
+        Document.says(22, "Returns the game that stands at a place in the high scores of a table: those that are "
+                + "over, by falling valid scores, those with the same by rising numbers.");
         TiltRoute x = new TiltRoute();
         Routes.addButtons(x, 0, 1, 3);
         Routes.addButtons(x, 0, 1, 3);

@@ -16,8 +16,8 @@ public final class RefusedTest {
     }
 
     /**
-     * Calls with each choice of wrong arguments. The first ones of them bring an IndexOutOfBoundsException, the others an
-     * IllegalArgumentException, and if none is wrong, an IllegalStateException is due, where the state brings one.
+     * Calls with each choice of wrong arguments. The first ones of them bring an IndexOutOfBoundsException, the others
+     * an IllegalArgumentException, and if none is wrong, an IllegalStateException is due, where the state brings one.
      */
     private static void choices(String told, TiltRoute x, boolean state, int indices, int[] right, Five call) {
         for (int choice = 0; choice < 1 << right.length; choice++) {
@@ -27,7 +27,8 @@ public final class RefusedTest {
                     arguments[i] = (choice >> i & 1) == 1 ? wrong : right[i];
                 }
                 boolean index = (choice & (1 << indices) - 1) != 0;
-                Class<? extends RuntimeException> due = index ? Check.INDEX : choice != 0 ? Check.ARGUMENT : Check.STATE;
+                Class<? extends RuntimeException> due = index ? Check.INDEX
+                        : choice != 0 ? Check.ARGUMENT : Check.STATE;
                 if (choice != 0 || state) {
                     Check.raises(told + ", choice " + choice + " of " + wrong, due, x, () -> call.answer(arguments));
                 }
@@ -46,7 +47,7 @@ public final class RefusedTest {
             Check.raises("switches " + switches, Check.INDEX, x, () -> x.setMode(0, 3, switches, 102, 5));
             for (int wrong : WRONG) {
                 Check.raises("no switch and limit " + wrong, Check.INDEX, x, () -> x.setMode(0, 3, switches, wrong, 5));
-                Check.raises("no switch and bonus " + wrong, Check.INDEX, x, () -> x.setMode(0, 3, switches, 102, wrong));
+                Check.raises("no switch, bonus " + wrong, Check.INDEX, x, () -> x.setMode(0, 3, switches, 102, wrong));
             }
         }
         for (int switches : new int[] {-2, Integer.MIN_VALUE}) {
@@ -100,8 +101,8 @@ public final class RefusedTest {
     }
 
     private static void whichException() {
-        Document.saysOfAll("An IndexOutOfBoundsException is thrown if there is no such table, switch, mode, game, entry, van "
-                + "or place, an IllegalArgumentException if another argument is out of its range, an "
+        Document.saysOfAll("An IndexOutOfBoundsException is thrown if there is no such table, switch, mode, game, "
+                + "entry, van or place, an IllegalArgumentException if another argument is out of its range, an "
                 + "IllegalStateException as told.");
         TiltRoute x = full();
         Check.raises("no such table", Check.INDEX, x, () -> x.box(6));

@@ -63,7 +63,7 @@ final class Routes {
         return x.shoot(table, 0, 0, 14);
     }
 
-    /** Shoots a ball into the field; it stays in a box of 60 times 60 parts at 0 0 for 300 steps, with two hits in each. */
+    /** Shoots a ball from 30; it stays in a box of 60 times 60 parts at 0 0 for 300 steps, with two hits in each. */
     static int stay(TiltRoute x, int table) {
         return x.shoot(table, 30, 0, 0);
     }

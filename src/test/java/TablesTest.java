@@ -209,8 +209,8 @@ public final class TablesTest {
 
     private static void boxes() {
         Document.says(3, "A bumper has a box (all x from its left on, its width of them, and all y from its top on, "
-                + "its height of them), a kick, 0 to 20, and a switch with the number of the bumper; boxes may lie over "
-                + "one another.");
+                + "its height of them), a kick, 0 to 20, and a switch with the number of the bumper; boxes may lie "
+                + "over one another.");
         int[] box = Routes.bumper(40, 20, 1005, 0);
         for (int x = 38; x <= 51; x++) {
             for (int y = 18; y <= 26; y++) {
@@ -387,8 +387,8 @@ public final class TablesTest {
     }
 
     private static void promise5Switches() {
-        Document.says(5, "`switches`: 10 times the switch by which it begins, and that by which it ends, added; NONE so "
-                + "that it is not defined (limit and bonus have to be in their ranges all the same)");
+        Document.says(5, "`switches`: 10 times the switch by which it begins, and that by which it ends, added; NONE "
+                + "so that it is not defined (limit and bonus have to be in their ranges all the same)");
         for (int begins = 0; begins < 8; begins++) {
             TiltRoute x = Routes.withButtons(8);
             for (int ends = 0; ends < 8; ends++) {
@@ -430,7 +430,8 @@ public final class TablesTest {
         Check.due("bonus 0", x.setMode(0, 1, 0, 102, 0), false);
         Check.due("bonus 5000", x.setMode(0, 1, 1, 102, 5000), true);
 
-        Document.says(5, "Throws `IllegalArgumentException` if switches is below -1, or limit or bonus is out of range");
+        Document.says(5, "Throws `IllegalArgumentException` if switches is below -1, or limit or bonus is out of "
+                + "range");
         int[] below = {-2, -3, -10, -11, -100, 10 - 65536, LOW, LOW + 1, LOW + 10, -HIGH};
         Check.raisesFor("switches", Check.ARGUMENT, x, below, switches -> x.setMode(0, 0, switches, 102, 0));
         Check.due("switches -1", x.setMode(0, 2, -1, 102, 0), false);

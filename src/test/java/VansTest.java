@@ -236,8 +236,8 @@ public final class VansTest {
         Document.says(28, "Throws `IllegalArgumentException` if kind is out of range");
         Check.raisesFor("wanted of the kind", Check.ARGUMENT, x, Check.outside(0, 1), x::wanted);
 
-        Document.says(28, "Returns how many spare parts of a kind are wanted: switches that stick, or bumpers that are "
-                + "broken, of all tables, less those parts that both vans have.");
+        Document.says(28, "Returns how many spare parts of a kind are wanted: switches that stick, or bumpers that "
+                + "are broken, of all tables, less those parts that both vans have.");
         Routes.addButtons(x, 0, 1, 3);
         x.addTable(0, 1);
         x.addBumper(1, 0, 0, 6060, 0);
@@ -269,8 +269,8 @@ public final class VansTest {
     }
 
     private static void vans() {
-        Document.says(26, "There are the vans 0 and 1; a van is at a site, 0 at first, and has spare switches and spare "
-                + "coils, 0 to 20 of each, none at first.");
+        Document.says(26, "There are the vans 0 and 1; a van is at a site, 0 at first, and has spare switches and "
+                + "spare coils, 0 to 20 of each, none at first.");
         TiltRoute x = new TiltRoute();
         for (int van = 0; van < 2; van++) {
             int asked = van;
@@ -287,8 +287,8 @@ public final class VansTest {
     }
 
     private static void needsService() {
-        Document.says(29, "A table needs service if no game is on at it, and its box has 20 coins or more, a switch of it "
-                + "sticks, or a bumper is broken.");
+        Document.says(29, "A table needs service if no game is on at it, and its box has 20 coins or more, a switch "
+                + "of it sticks, or a bumper is broken.");
         TiltRoute x = new TiltRoute();
         for (int i = 0; i < 4; i++) {
             Routes.addButtons(x, 10 * i + 10, 4, 2);
@@ -346,10 +346,10 @@ public final class VansTest {
     }
 
     private static void plans() {
-        Document.says(30, "The plan of a van is the shortest way from its site to the sites of all tables that need service, "
-                + "each table once, of several ways as short the one whose first table is the lowest, of these the one whose "
-                + "second table is, and so on; the length of a way is that of all its parts, the differences of sites "
-                + "without sign.");
+        Document.says(30, "The plan of a van is the shortest way from its site to the sites of all tables that need "
+                + "service, each table once, of several ways as short the one whose first table is the lowest, of "
+                + "these the one whose second table is, and so on; the length of a way is that of all its parts, the "
+                + "differences of sites without sign.");
         duePlan("rising sites", sticking(10, 20, 30), 0, 30, " 0 1 2");
         duePlan("falling sites", sticking(30, 20, 10), 1, 30, " 2 1 0");
         duePlan("the same sites", sticking(5, 5, 5), 0, 5, " 0 1 2");
@@ -449,8 +449,8 @@ public final class VansTest {
         Document.says(30, "Returns the table.");
         Check.due("the last table", x.planned(1, 2), 0);
 
-        Document.says(30, "Throws `IndexOutOfBoundsException` if there is no such van, or its plan has not so many, or "
-                + "place is below 0");
+        Document.says(30, "Throws `IndexOutOfBoundsException` if there is no such van, or its plan has not so many, "
+                + "or place is below 0");
         Check.raisesFor("the place", Check.INDEX, x, Check.outside(0, 2), place -> x.planned(0, place));
         Check.raises("the place 0 of an empty plan", Check.INDEX, none, () -> none.planned(1, 0));
         Check.raises("the place -1 of an empty plan", Check.INDEX, none, () -> none.planned(0, -1));
@@ -537,8 +537,8 @@ public final class VansTest {
     }
 
     private static void emptiedBoxes() {
-        Document.says(31, "At each table it takes what is in the box; what that is less than the plays of the table since "
-                + "the box was emptied last have brought is missing, and is added up.");
+        Document.says(31, "At each table it takes what is in the box; what that is less than the plays of the table "
+                + "since the box was emptied last have brought is missing, and is added up.");
         TiltRoute x = new TiltRoute();
         Routes.addButtons(x, 10, 9, 1);
         playGames(x, 0, 3);
@@ -567,9 +567,9 @@ public final class VansTest {
     }
 
     private static void mending() {
-        Document.says(31, "Then, by rising numbers, each switch that sticks is mended, as long as the van has a spare "
-                + "switch, which it takes; then, likewise, each bumper that is broken, with a spare coil: its wear is 0 "
-                + "then.");
+        Document.says(31, "Then, by rising numbers, each switch that sticks is mended, as long as the van has a "
+                + "spare switch, which it takes; then, likewise, each bumper that is broken, with a spare coil: its "
+                + "wear is 0 then.");
         for (int parts = 1; parts <= 8; parts++) {
             TiltRoute x = Routes.withButtons(8);
             for (int i = 7; i >= 0; i--) {
