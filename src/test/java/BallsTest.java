@@ -161,6 +161,10 @@ public final class BallsTest {
         dueLog("to -30, which is 30", " 0:0:1:0", 0, -30, 30, bumper(30, 0, 101, 0));
         dueLog("behind the right wall, to the left", " 0:0:2:0", 150, 20, 0, bumper(128, 2, 101, 0));
         dueLog("behind the left wall, to the right", " 0:0:2:0", 5, -20, 0, bumper(35, 2, 101, 0));
+        dueLog("159 is no wall: the speed is 20 as it bumps", " 0:0:1:0 1:0:2:0", 139, 20, 0,
+                bumper(159, 0, 101, 0), bumper(119, 2, 101, 0));
+        dueLog("0 is no wall: the speed is -20 as it bumps", " 0:0:1:0 1:0:2:0", 20, -20, 0,
+                bumper(0, 0, 101, 0), bumper(40, 2, 101, 0));
         dueLog("159 is no wall: then 179, which is 139", " 0:0:2:0", 139, 20, 0, bumper(139, 2, 101, 0));
         dueLog("0 is no wall: then -20, which is 20", " 0:0:2:0", 20, -20, 0, bumper(20, 2, 101, 0));
         dueLog("from 159 with -30", " 0:0:1:0", 159, -30, 30, bumper(129, 0, 101, 0));
@@ -187,6 +191,9 @@ public final class BallsTest {
         dueLog("-15 with a kick of 20", " 0:0:1:0 1:0:2:0", 70, -15, 0, bumper(0, 0, 6001, 20), bumper(100, 2, 101, 0));
         dueLog("-15 with a kick of 14", " 0:0:1:0 1:0:2:0", 70, -15, 0, bumper(0, 0, 6001, 14), bumper(99, 2, 101, 0));
         dueLog("15 with a kick of 20", " 0:0:1:0 1:0:2:0", 60, 15, 0, bumper(75, 0, 101, 20), bumper(30, 2, 101, 0));
+        dueLog("1 with a kick of 10", " 0:0:1:0 1:0:2:0", 74, 1, 0, bumper(75, 0, 101, 10), bumper(63, 2, 101, 0));
+        dueLog("-1 with a kick of 10", " 0:0:1:0 1:0:2:0", 76, -1, 0, bumper(75, 0, 101, 10), bumper(87, 2, 101, 0));
+        dueLog("a kick of 0", " 0:0:1:0 1:0:2:0", 70, -15, 0, bumper(0, 0, 6001, 0), bumper(85, 2, 101, 0));
         dueLog("a kick behind the wall", " 0:0:1:0 1:0:2:0", 150, 20, 0,
                 bumper(148, 0, 101, 5), bumper(143, 2, 101, 0));
     }
@@ -296,6 +303,9 @@ public final class BallsTest {
                 bumper(30, 18, 101, 5), bumper(30, 21, 101, 0));
         dueLog("20 with a kick of 20, to 30", " 0:0:1:0 1:0:2:0", 30, 0, 18,
                 bumper(30, 20, 101, 20), bumper(30, 28, 101, 0));
+        dueLog("1 with a kick of 4", " 0:0:1:0 1:0:2:0", 30, 1, -1, bumper(31, 1, 101, 4), bumper(32, 3, 101, 0));
+        dueLog("upwards with -1 and a kick of 4", " 0:0:2:0 1:0:3:0 2:0:4:0", 10, 1, -1,
+                bumper(12, 4, 101, 0), bumper(13, 0, 101, 4), bumper(14, 8, 101, 0));
         dueLog("20 with a kick of 9", " 0:0:1:0 1:0:2:0", 30, 0, 18, bumper(30, 20, 101, 9), bumper(30, 27, 101, 0));
         StringBuilder due = new StringBuilder();
         for (int step = 7; step <= 300; step += 14) {

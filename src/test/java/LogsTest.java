@@ -122,6 +122,7 @@ public final class LogsTest {
         Check.due("its score", x.score(2), 91);
         validWithAModeThatEnds();
         validOfHitsAndStickingsOfASwitch();
+        validOfManyStickings();
     }
 
     /** Without the closing that ends it, a mode goes on. */
@@ -157,6 +158,30 @@ public final class LogsTest {
         mend(x, 1);
         Check.due("the hit alone", x.valid(0), 10);
         Check.due("the log is as it was", Check.logOf(x, 0), " 1:0:1:0 1:1:10:1 1:2:10:1");
+    }
+
+    /** The sticking 0 of the switch 1 goes on; those from 21 to 59 are of the switch 0, each in a game of its own. */
+    private static void validOfManyStickings() {
+        TiltRoute x = withPowers(2);
+        x.stick(0, 1);
+        for (int sticking = 1; sticking < 21; sticking++) {
+            x.stick(0, 0);
+            mend(x, 1);
+        }
+        for (int game = 0; game < 39; game++) {
+            Check.due("a sticking", x.stick(0, 0), game + 21);
+            x.coin(0);
+            Routes.wait(x, 0);
+            Routes.finish(x, 0);
+            Check.due("the valid score as it sticks", x.valid(game), 11);
+            mend(x, 1);
+            for (int before = 0; before <= game; before++) {
+                Check.due("the valid score of the game " + before, x.valid(before), 10);
+            }
+        }
+        mend(x, 1);
+        Check.due("the valid score without both", x.valid(0) + x.valid(38), 0);
+        Check.due("the score", x.score(38), 11);
     }
 
     private static void struck() {
